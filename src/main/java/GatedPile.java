@@ -215,7 +215,8 @@ public final class GatedPile {
   /** The tape, and the tokens that it is cut into. */
   private static final class Text {
     static final int MOST = 3000;
-    static final int NOWHERE = Integer.MAX_VALUE;
+    // Behind every place that a text has.
+    static final int NOWHERE = MOST + 1;
     static final int LONGEST_WORD = 12;
     static final int LARGEST_NUMBER = 32767;
 
@@ -244,10 +245,8 @@ public final class GatedPile {
     int length;
     final int[] kind = new int[MOST + 1];
     final int[] place = new int[MOST + 1];
-    // A NUMBER's value, a NAME's number among the names.
+    // A NUMBER's value, a NAME's number among the names, of a { the token that closes its BLOCK.
     final int[] value = new int[MOST + 1];
-    // The token that closes a BLOCK, for the one that opens it.
-    final int[] closing = new int[MOST + 1];
     int size;
     final long[] keys;
 
@@ -283,9 +282,13 @@ public final class GatedPile {
       return token < 0 || token >= size ? 0 : value[token];
     }
 
+    void setValue(int token, int newValue) {
+      if (token >= 0 && token < size) value[token] = newValue;
+    }
+
     /** The token behind the BLOCK that a token opens. */
     int behindBlock(int token) {
-      return token < 0 || token >= size ? size : closing[token] + 1;
+      return kindOf(token) == '{' ? valueOf(token) + 1 : size;
     }
 
     /** COMPARE's number of a sign, NONE for what is no comparison. */
@@ -321,7 +324,6 @@ public final class GatedPile {
       kind[size] = newKind;
       place[size] = newPlace;
       value[size] = newValue;
-      closing[size] = size;
       size++;
     }
 
@@ -425,7 +427,7 @@ public final class GatedPile {
     }
 
     private boolean accept(int kind) {
-      if (here() != kind) return false;
+      if (text.kindOf(at) != kind) return false;
       at++;
       return true;
     }
@@ -447,18 +449,14 @@ public final class GatedPile {
           return names() && accept(';');
         case Text.PROC:
           at++;
-          return procedure();
+          if (!accept(Text.NAME) || !accept('(')) return false;
+          if (here() != ')' && !names()) return false;
+          if (!accept(')')) return false;
+          if (accept(Text.RAISES) && !names()) return false;
+          return block(0);
         default:
           return false;
       }
-    }
-
-    private boolean procedure() {
-      if (!accept(Text.NAME) || !accept('(')) return false;
-      if (here() != ')' && !names()) return false;
-      if (!accept(')')) return false;
-      if (accept(Text.RAISES) && !names()) return false;
-      return block(0);
     }
 
     private boolean names() {
@@ -475,7 +473,7 @@ public final class GatedPile {
       for (int left = text.size; left > 0 && here() != '}'; left--) {
         if (!statement(depth + 1)) return false;
       }
-      if (opening >= 0 && opening < text.size) text.closing[opening] = at;
+      text.setValue(opening, at);
       return accept('}');
     }
 
@@ -930,7 +928,7 @@ public final class GatedPile {
     }
 
     private void blame(int token) {
-      nameFault = Math.min(nameFault, text.placeOf(token));
+      if (token >= 0 && token < text.size && text.place[token] < nameFault) nameFault = text.place[token];
     }
 
     private void tellLocal(int token) {
@@ -964,8 +962,8 @@ public final class GatedPile {
         if (here() == Text.NAME) tellLocal(at);
       }
       int told = locals;
-      checkRaises(at + 1);
-      for (; at < text.size && here() != '{'; at++) continue;
+      at++;
+      checkRaises();
       handler = newLabel();
       emit(Code.ENTER, procedure, NONE);
       makeBlock(0);
@@ -988,13 +986,14 @@ public final class GatedPile {
       code.enter[procedure] = first;
     }
 
-    private void checkRaises(int raises) {
-      if (text.kindOf(raises) != Text.RAISES) return;
-      for (int token = raises + 1; token < text.size && text.kindOf(token) != '{'; token++) {
-        if (text.kindOf(token) != Text.NAME) continue;
-        use(token, Tops.CONDITION);
-        for (int earlier = raises + 1; earlier < token; earlier += 2) {
-          if (text.valueOf(earlier) == text.valueOf(token)) blame(token);
+    /** What stands ahead of a proc's BLOCK, behind its parameters. */
+    private void checkRaises() {
+      int first = at + 1;
+      for (; at < text.size && here() != '{'; at++) {
+        if (here() != Text.NAME) continue;
+        use(at, Tops.CONDITION);
+        for (int earlier = first; earlier < at; earlier += 2) {
+          if (text.valueOf(earlier) == text.valueOf(at)) blame(at);
         }
       }
     }
@@ -1258,7 +1257,8 @@ public final class GatedPile {
       Machine.LOAD, 0, 7, 1, Machine.JN, 0, 0, 1, Machine.JUMP, 0, 0, 1, Machine.SUB, 3, 5, 3,
       Machine.LOAD, 5, 7, 0, Machine.CALL, 5, 5, 0, Machine.LI, 4, 0, 3, Machine.CALL, 5, 5, 0
     };
-    // The eight words ahead of MULTIPLY.
+    // The bits of a word of each op that hold its b or its number.
+    private static final int[] LOW_BITS = {56, 56, 56, 56, 56, 0, 511, 255, 63, 63, 63, 511, 511, 0, 4095, 0};
     private static final int MULTIPLY_AT = 8;
     private static final int DIVIDE_AT = 38;
     private static final int RANGE = 1;
@@ -1319,25 +1319,11 @@ public final class GatedPile {
 
     /** One word; while places are sought, only its room. */
     private void put(int op, int d, int a, int x) {
-      if (writing && at >= 0 && at < Code.MOST_WORDS) code.words[at] = op << 12 | d << 9 | a << 6 | lowBits(op, x);
-      at++;
-    }
-
-    private static int lowBits(int op, int x) {
-      switch (op) {
-        case Machine.LI:
-        case Machine.JZ:
-        case Machine.JN: return x & 511;
-        case Machine.HI: return x & 255;
-        case Machine.LOAD:
-        case Machine.STORE:
-        case Machine.ADDI: return x & 63;
-        case Machine.JUMP: return x & 4095;
-        case Machine.HALF:
-        case Machine.CALL:
-        case Machine.HALT: return 0;
-        default: return (x & 7) << 3;
+      if (writing && at >= 0 && at < Code.MOST_WORDS && op >= 0 && op < LOW_BITS.length) {
+        int low = op <= Machine.LESS ? x << 3 : x;
+        code.words[at] = op << 12 | d << 9 | a << 6 | low & LOW_BITS[op];
       }
+      at++;
     }
 
     private void place(int r, int v) {
@@ -1369,8 +1355,8 @@ public final class GatedPile {
       return (longer[current] >> goes & 1) != 0;
     }
 
-    /** The words of the next GO. */
-    private int reach() {
+    /** How many words the next GO has. */
+    private int goSize() {
       return nextIsLonger() ? 3 : 1;
     }
 
@@ -1394,14 +1380,14 @@ public final class GatedPile {
     }
 
     private void skipFail(int condition) {
-      put(Machine.JUMP, 0, 0, 1 + reach());
+      put(Machine.JUMP, 0, 0, 1 + goSize());
       put(Machine.LI, 4, 0, condition);
       go();
     }
 
     /** On to H when the proc or the part of the library that was called has left a condition. */
     private void goIfRaised() {
-      put(Machine.JZ, 4, 0, reach());
+      put(Machine.JZ, 4, 0, goSize());
       go();
     }
 
@@ -1482,7 +1468,7 @@ public final class GatedPile {
         case Code.UNLESS:
           off(0);
           put(Machine.JZ, 0, 0, 1);
-          put(Machine.JUMP, 0, 0, reach());
+          put(Machine.JUMP, 0, 0, goSize());
           go();
           break;
         case Code.DROP: put(Machine.ADDI, 7, 7, -1); break;
@@ -1499,7 +1485,7 @@ public final class GatedPile {
         case Code.WHEN:
           layMatch(x);
           put(Machine.JZ, 0, 0, 1);
-          put(Machine.JUMP, 0, 0, 1 + reach());
+          put(Machine.JUMP, 0, 0, 1 + goSize());
           put(Machine.LI, 4, 0, 0);
           go();
           break;

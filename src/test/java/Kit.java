@@ -1,0 +1,56 @@
+import java.nio.charset.StandardCharsets;
+
+/** What the tests share: feeding texts, and keeping count of answers. */
+final class Kit {
+  private static int wrong = 0;
+  private static int asked = 0;
+
+  private Kit() {}
+
+  static void due(String what, long got, long want) {
+    asked++;
+    if (got == want) return;
+    wrong++;
+    if (wrong <= 40) System.out.println(what + " answered " + got + ", due is " + want);
+  }
+
+  static void due(String what, boolean got, boolean want) {
+    due(what, got ? 1 : 0, want ? 1 : 0);
+  }
+
+  /** Puts a text on the tape; it must be empty. */
+  static void feed(GatedPile x, byte[] text) {
+    for (int at = 0; at < text.length; at += 20) {
+      int[] five = new int[5];
+      for (int i = 0; i < 20; i++) {
+        int b = at + i < text.length ? text[at + i] & 255 : 0;
+        five[i / 4] |= b << 24 - 8 * (i % 4);
+      }
+      due("feed at " + at, x.feed(five[0], five[1], five[2], five[3], five[4]), at + 20);
+    }
+    due("end", x.end(text.length), text.length);
+  }
+
+  static void feed(GatedPile x, String text) {
+    feed(x, text.getBytes(StandardCharsets.ISO_8859_1));
+  }
+
+  static GatedPile compiled(String text) {
+    GatedPile x = new GatedPile();
+    feed(x, text);
+    int words = x.compile();
+    if (words < 0) due("compile of " + text + ": fault " + x.fault(0) + " at " + x.fault(1), words, 0);
+    return x;
+  }
+
+  static String times(String part, int n) {
+    StringBuilder all = new StringBuilder();
+    for (int i = 0; i < n; i++) all.append(part);
+    return all.toString();
+  }
+
+  static void finish() {
+    System.out.println(wrong == 0 ? asked + " answers are as due" : wrong + " of " + asked + " answers are not as due");
+    if (wrong != 0) System.exit(1);
+  }
+}
