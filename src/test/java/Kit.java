@@ -11,7 +11,9 @@ final class Kit {
     asked++;
     if (got == want) return;
     wrong++;
-    if (wrong <= 40) System.out.println(what + " answered " + got + ", due is " + want);
+    if (wrong > 40) return;
+    String named = what.length() > 400 ? what.substring(0, 400) + ".." : what;
+    System.out.println(named + " answered " + got + ", due is " + want);
   }
 
   static void due(String what, boolean got, boolean want) {
