@@ -59,38 +59,31 @@ public final class GatedPile {
 
   public int compile() {
     judged = true;
-    faultPlace = text.length;
-    faultKind = translate();
+    faultKind = 0;
+    faultPlace = NONE;
+    tops.begin();
+    text.cut(tops);
+    if (grammar.holds()) {
+      tops.gather(text);
+      maker.make(draft);
+      if (maker.nameFault != Text.NOWHERE) blame(NAME, maker.nameFault);
+      else if (maker.callFault != Text.NOWHERE) blame(ARGUMENTS, maker.callFault);
+      else if (tops.mainNumber() == NONE) blame(MAIN, text.length);
+      else if (tops.exceeds() || maker.large || !layer.lay(draft)) blame(LARGE, text.length);
+    } else {
+      blame(MALFORMED, text.placeOf(grammar.at));
+    }
     text.length = 0;
     if (faultKind != 0) return NONE;
-    faultPlace = NONE;
     Code made = draft;
     draft = code;
     code = made;
     return code.size;
   }
 
-  /** Makes the draft of the tape's text: the kind of the fault that stands against it, 0 without one. */
-  private int translate() {
-    tops.begin();
-    text.cut(tops);
-    if (!grammar.holds()) {
-      faultPlace = text.placeOf(grammar.at);
-      return MALFORMED;
-    }
-    tops.gather(text);
-    maker.make(draft);
-    if (maker.nameFault != Text.NOWHERE) {
-      faultPlace = maker.nameFault;
-      return NAME;
-    }
-    if (maker.callFault != Text.NOWHERE) {
-      faultPlace = maker.callFault;
-      return ARGUMENTS;
-    }
-    if (tops.mainNumber() == NONE) return MAIN;
-    if (tops.exceeds() || maker.large) return LARGE;
-    return layer.lay(draft) ? 0 : LARGE;
+  private void blame(int kind, int place) {
+    faultKind = kind;
+    faultPlace = place;
   }
 
   public int fault(int what) {
@@ -434,7 +427,9 @@ public final class GatedPile {
 
     /** Accepts what may stand within no more than DEEPEST of its like, depth of which are open. */
     private boolean open(int kind, int depth) {
-      return depth < DEEPEST && accept(kind);
+      if (depth >= DEEPEST || text.kindOf(at) != kind) return false;
+      at++;
+      return true;
     }
 
     private boolean topPart() {
