@@ -584,10 +584,15 @@ public final class GatedPile {
     static final int CONDITION = 3;
     static final int PROCEDURE = 4;
 
+    // What a text of 3000 bytes has room for: a name and what parts it from the next one, 'var a;', 'proc a(){}'.
     static final int MOST_NAMES = Text.MOST / 2 + 10;
-    // 'var a;' has 6 bytes, 'proc a(){}' 10: a text holds no more of them.
     static final int MOST_VARS = Text.MOST / 6;
     static final int MOST_PROCEDURES = Text.MOST / 10;
+    // What is no fault yet.
+    private static final int FINE_CONDITIONS = 30;
+    private static final int FINE_VARS = 60;
+    private static final int FINE_PARAMETERS = 8;
+    private static final int FINE_LENGTH = 500;
 
     final long[] spelled = new long[MOST_NAMES];
     final int[] kinds = new int[MOST_NAMES];
@@ -694,7 +699,7 @@ public final class GatedPile {
     }
 
     boolean exceeds() {
-      return large || procedures > Code.MOST_PROCEDURES || conditions > 30 || vars > 60;
+      return large || procedures > Code.MOST_PROCEDURES || conditions > FINE_CONDITIONS || vars > FINE_VARS;
     }
 
     void gather(Text text) {
@@ -722,7 +727,7 @@ public final class GatedPile {
     private int gatherVar(Text text, int token) {
       boolean isRow = text.kindOf(token + 1) == '[';
       int length = isRow ? text.valueOf(token + 2) : 1;
-      if (length < 1 || length > 500) large = true;
+      if (length < 1 || length > FINE_LENGTH) large = true;
       tell(text, token, isRow ? ROW : VAR, vars);
       if (vars < MOST_VARS) {
         offsets[vars] = globals;
@@ -750,7 +755,7 @@ public final class GatedPile {
       for (; token < text.size && text.kindOf(token) != ')'; token++) {
         if (text.kindOf(token) == Text.NAME) told++;
       }
-      if (told > 8) large = true;
+      if (told > FINE_PARAMETERS) large = true;
       if (procedures < MOST_PROCEDURES) {
         parameters[procedures] = told;
         raisedFrom[procedures] = raisedNames;

@@ -45,6 +45,18 @@ final class Kit {
     return x;
   }
 
+  /** A random program compiled; null when it is longer than a tape, or LARGE. */
+  static GatedPile compiled(Model m, long seed) {
+    String text = m.text();
+    if (text.length() > 3000) text = m.text(true);
+    if (text.length() > 3000) return null;
+    GatedPile x = new GatedPile();
+    feed(x, text);
+    if (x.compile() >= 0) return x;
+    due("fault of random program " + seed, x.fault(0), 5);
+    return null;
+  }
+
   static String times(String part, int n) {
     StringBuilder all = new StringBuilder();
     for (int i = 0; i < n; i++) all.append(part);

@@ -68,7 +68,7 @@ final class Model {
   }
 
   static final String[] SIGNS = {"<", ">", "<=", ">=", "==", "!="};
-  static final int STEPS = 12000;
+  static final int STEPS = 200000;
 
   final Random random;
   final List<Proc> procs = new ArrayList<>();
@@ -535,7 +535,7 @@ final class Model {
   private int top;
   private Map<String, Integer> locals;
 
-  /** What run() should answer: the condition, -2, or -3 when it surely takes too long. */
+  /** What run() should answer if it had the time: the condition, -2, or -3 when it takes more than STEPS. */
   int meaning(int[] numbersIn, int pile) {
     input = numbersIn;
     takenInputs = 0;

@@ -76,15 +76,8 @@ final class OrderTest {
   }
 
   private static void compare(Model m, long seed) {
-    String text = m.text();
-    if (text.length() > 3000) text = m.text(true);
-    if (text.length() > 3000) return;
-    GatedPile x = new GatedPile();
-    Kit.feed(x, text);
-    if (x.compile() < 0) {
-      Kit.due("fault of random program " + seed, x.fault(0), 5);
-      return;
-    }
+    GatedPile x = Kit.compiled(m, seed);
+    if (x == null) return;
     Kit.due("procs " + seed, x.count(0), m.procs.size());
     Kit.due("conditions " + seed, x.count(1), m.conditions.size());
     Kit.due("orders " + seed, x.count(2), m.orders.size());

@@ -178,6 +178,41 @@ final class RunTest {
     Kit.due("HALTED", x.look(13), 1);
   }
 
+  private static String lasting(int turns, int outs, int keeps) {
+    return "var v;proc main(){var i=" + turns + ";while i{i=i-1;}" + Kit.times("out 1;", outs) + Kit.times("v=1;", keeps) + "}";
+  }
+
+  private static int clocks(String text) {
+    GatedPile x = Kit.compiled(text);
+    x.reset();
+    int done = 0;
+    for (int i = 0; i < 10; i++) done += x.clock(5000);
+    return done;
+  }
+
+  /** A run that is HALTED by its 20000th clock has ended, one that needs another has not. */
+  private static void justInTime() {
+    int base = clocks(lasting(256, 0, 0));
+    int turn = clocks(lasting(257, 0, 0)) - base;
+    int out = clocks(lasting(256, 1, 0)) - base;
+    int keep = clocks(lasting(256, 0, 1)) - base;
+    for (int wanted = 20000; wanted <= 20001; wanted++) {
+      String text = null;
+      for (int turns = 256; turns < 512; turns++) {
+        for (int outs = 0; outs < 40; outs++) {
+          int left = wanted - base - (turns - 256) * turn - outs * out;
+          if (left >= 0 && left % keep == 0 && left / keep < 60) text = lasting(turns, outs, left / keep);
+        }
+      }
+      GatedPile x = Kit.compiled(text);
+      Kit.due("run of " + wanted + " clocks", x.run(), wanted == 20000 ? 0 : -3);
+      Kit.due("its clocks", x.count(10), 20000);
+      Kit.due("HALTED", x.look(13), wanted == 20000 ? 1 : 0);
+      Kit.due("a clock more", x.clock(5), wanted - 20000);
+      Kit.due("HALTED then", x.look(13), 1);
+    }
+  }
+
   private static void inputs() {
     GatedPile x = Kit.compiled("proc main(){var s=0; try{while 1{s=s+in;}}when empty{out s;}}");
     for (int i = 0; i < 200; i++) Kit.due("input " + i, x.input(i % 2), true);
@@ -215,15 +250,8 @@ final class RunTest {
   private static void compare(long seed) {
     compared++;
     Model m = new Model(seed, 20 + (int) (seed % 6) * 25, seed % 3 == 0);
-    String text = m.text();
-    if (text.length() > 3000) text = m.text(true);
-    if (text.length() > 3000) return;
-    GatedPile x = new GatedPile();
-    Kit.feed(x, text);
-    if (x.compile() < 0) {
-      Kit.due("fault of " + seed, x.fault(0), 5);
-      return;
-    }
+    GatedPile x = Kit.compiled(m, seed);
+    if (x == null) return;
     Random random = new Random(seed);
     int[] input = new int[random.nextInt(12)];
     for (int i = 0; i < input.length; i++) {
@@ -232,14 +260,18 @@ final class RunTest {
     }
     int want = m.meaning(input, x.count(3) + x.count(4));
     int got = x.run();
+    if (got == -3) {
+      Kit.due("clocks of " + seed, x.count(10), 20000);
+      for (int i = 0; i < 60; i++) x.clock(5000);
+      if (x.look(13) == 1) got = x.look(4) == -1 ? -2 : x.look(4);
+    } else {
+      Kit.due("clocks of " + seed, x.count(10) <= 20000, true);
+    }
     answers[3 + got]++;
     if (got != -3) {
       Kit.due("run of " + seed, got, want);
       Kit.due("OUTPUT of " + seed, x.count(9), m.output.size());
       Kit.due("INPUT of " + seed, x.count(8), input.length - m.takenInputs);
-      Kit.due("clocks of " + seed, x.count(10) <= 20000, true);
-    } else {
-      Kit.due("clocks of " + seed, x.count(10), 20000);
     }
     int many = Math.min(x.count(9), Math.min(500, m.output.size()));
     for (int i = 0; i < many; i++) Kit.due("output(" + i + ") of " + seed, x.output(i), m.output.get(i));
@@ -254,6 +286,7 @@ final class RunTest {
     products();
     statements();
     full();
+    justInTime();
     inputs();
     outputs();
     // The Model goes as deep as the programs do.
