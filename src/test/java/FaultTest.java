@@ -4,38 +4,6 @@ import java.util.Random;
 
 /** Promises 4 and 5: texts with faults, by hand and made from random programs, the latter beside the Judge. */
 final class FaultTest {
-  private static void faulty(String text, int kind, int place) {
-    GatedPile x = new GatedPile();
-    Kit.feed(x, text);
-    Kit.due("compile of " + text, x.compile(), -1);
-    Kit.due("kind of " + text, x.fault(0), kind);
-    Kit.due("place of " + text, x.fault(1), place);
-    judged(text, kind, place);
-  }
-
-  private static void judged(String text, int kind, int place) {
-    Judge j = new Judge(text);
-    if (kind == 5 && j.kind == 0) return;
-    Kit.due("the Judge's kind of " + text, j.kind, kind);
-    Kit.due("the Judge's place of " + text, j.place, place);
-  }
-
-  private static void good(String text) {
-    GatedPile x = new GatedPile();
-    Kit.feed(x, text);
-    int words = x.compile();
-    Kit.due("kind of " + text, x.fault(0), 0);
-    Kit.due("place of " + text, x.fault(1), -1);
-    Kit.due("words of " + text, words > 82, true);
-    judged(text, 0, -1);
-  }
-
-  /** A fault at the place of the mark | in a text. */
-  private static void marked(int kind, String text) {
-    int at = text.indexOf('|');
-    faulty(text.substring(0, at) + text.substring(at + 1), kind, at);
-  }
-
   private static void malformed() {
     String[] texts = {
       "|x", "var |1;", "var a|", "var a |b;", "var a[|];", "var a[1|;", "var a[1]|", "var a[|-1];", "cond |;", "cond a|;".replace("|;", ",|;"),
@@ -56,32 +24,32 @@ final class FaultTest {
       "proc main(a;){}".replace(";", "|;"), "proc main() raises a,|{}", "|32768", "|!=", "|!", "proc main(){out 1|! =2;}",
       "var x = 1;".replace("=", "|="), "proc main(){cond a;}".replace("cond", "|cond"), "proc main(){proc f(){}}".replace("proc f", "|proc f"),
     };
-    for (String t : texts) marked(1, t);
-    faulty("proc main(){#}", 1, 14);
-    faulty("proc main(){out 1;#}\n", 1, 21);
+    for (String t : texts) Verdict.marked(1, t);
+    Verdict.faulty("proc main(){#}", 1, 14);
+    Verdict.faulty("proc main(){out 1;#}\n", 1, 21);
   }
 
   private static void nested() {
-    good("proc main(){out " + Kit.times("(", 29) + "1" + Kit.times(")", 29) + ";}");
-    marked(1, "proc main(){out " + Kit.times("(", 29) + "|(1" + Kit.times(")", 30) + ";}");
-    good("proc main(){out " + Kit.times("-", 29) + "1;}");
-    marked(1, "proc main(){out " + Kit.times("-", 29) + "|-1;}");
-    good("proc main(){out " + Kit.times("-(", 14) + "-1" + Kit.times(")", 14) + ";}");
-    marked(1, "proc main(){out " + Kit.times("-(", 14) + "-|(1)" + Kit.times(")", 14) + ";}");
-    good("var a[1];proc main(){out " + Kit.times("a[", 29) + "0" + Kit.times("]", 29) + ";}");
-    marked(1, "var a[1];proc main(){out " + Kit.times("a[", 29) + "a|[0]" + Kit.times("]", 29) + ";}");
-    good("var a[1];proc main(){" + Kit.times("a[", 29) + "0" + Kit.times("]", 29) + "=-1;}");
-    marked(1, "var a[1];proc main(){" + Kit.times("a[", 29) + "|-1" + Kit.times("]", 29) + "=-1;}");
-    good("proc f(x){} proc main(){" + Kit.times("f(", 29) + "0" + Kit.times(")", 29) + ";}");
-    marked(1, "proc f(x){} proc main(){" + Kit.times("f(", 29) + "f|(0)" + Kit.times(")", 29) + ";}");
-    good("proc f(){} proc main(){" + Kit.times("if 1{", 28) + "f();" + Kit.times("}", 28) + "}");
-    good("proc main(){" + Kit.times("if 1{", 29) + "out 1;" + Kit.times("}", 29) + "}");
-    marked(1, "proc main(){" + Kit.times("if 1{", 29) + "if 1|{}" + Kit.times("}", 29) + "}");
-    marked(1, "proc main(){" + Kit.times("if 1{", 29) + "out |-1;" + Kit.times("}", 29) + "}");
-    marked(1, "proc f(){} proc main(){" + Kit.times("while 1{", 29) + "f|();" + Kit.times("}", 29) + "}");
-    marked(1, "proc main(){" + Kit.times("try{", 29) + "try|{}when range{}");
+    Verdict.good("proc main(){out " + Kit.times("(", 29) + "1" + Kit.times(")", 29) + ";}");
+    Verdict.marked(1, "proc main(){out " + Kit.times("(", 29) + "|(1" + Kit.times(")", 30) + ";}");
+    Verdict.good("proc main(){out " + Kit.times("-", 29) + "1;}");
+    Verdict.marked(1, "proc main(){out " + Kit.times("-", 29) + "|-1;}");
+    Verdict.good("proc main(){out " + Kit.times("-(", 14) + "-1" + Kit.times(")", 14) + ";}");
+    Verdict.marked(1, "proc main(){out " + Kit.times("-(", 14) + "-|(1)" + Kit.times(")", 14) + ";}");
+    Verdict.good("var a[1];proc main(){out " + Kit.times("a[", 29) + "0" + Kit.times("]", 29) + ";}");
+    Verdict.marked(1, "var a[1];proc main(){out " + Kit.times("a[", 29) + "a|[0]" + Kit.times("]", 29) + ";}");
+    Verdict.good("var a[1];proc main(){" + Kit.times("a[", 29) + "0" + Kit.times("]", 29) + "=-1;}");
+    Verdict.marked(1, "var a[1];proc main(){" + Kit.times("a[", 29) + "|-1" + Kit.times("]", 29) + "=-1;}");
+    Verdict.good("proc f(x){} proc main(){" + Kit.times("f(", 29) + "0" + Kit.times(")", 29) + ";}");
+    Verdict.marked(1, "proc f(x){} proc main(){" + Kit.times("f(", 29) + "f|(0)" + Kit.times(")", 29) + ";}");
+    Verdict.good("proc f(){} proc main(){" + Kit.times("if 1{", 28) + "f();" + Kit.times("}", 28) + "}");
+    Verdict.good("proc main(){" + Kit.times("if 1{", 29) + "out 1;" + Kit.times("}", 29) + "}");
+    Verdict.marked(1, "proc main(){" + Kit.times("if 1{", 29) + "if 1|{}" + Kit.times("}", 29) + "}");
+    Verdict.marked(1, "proc main(){" + Kit.times("if 1{", 29) + "out |-1;" + Kit.times("}", 29) + "}");
+    Verdict.marked(1, "proc f(){} proc main(){" + Kit.times("while 1{", 29) + "f|();" + Kit.times("}", 29) + "}");
+    Verdict.marked(1, "proc main(){" + Kit.times("try{", 29) + "try|{}when range{}");
     // What has ended does not count.
-    good("proc main(){" + Kit.times("if 1{}", 40) + "out " + Kit.times("-1+", 40) + Kit.times("(1)*", 40) + "1;}");
+    Verdict.good("proc main(){" + Kit.times("if 1{}", 40) + "out " + Kit.times("-1+", 40) + Kit.times("(1)*", 40) + "1;}");
   }
 
   private static void names() {
@@ -102,7 +70,7 @@ final class FaultTest {
       "proc main(){out a1+|a;} var a1;", "proc main(){out abcdefghijkl+|abcdefghijk;} var abcdefghijkl;",
       "proc f(){f(1); |x=1;}", "proc f(x){} proc main(){f(); out |y;}", "proc main(){var x=1; if x{out x;} out x;} proc f(){out |x;}",
     };
-    for (String t : texts) marked(2, t);
+    for (String t : texts) Verdict.marked(2, t);
     String[] fine = {
       "proc main(){if 1{var x=1;}else{var x=2;} var x=3;}", "proc f(a){} proc g(a){var b=a;} proc main(){var b=1; var a=b;}",
       "proc main(){a=1; f(); try{raise c;}when c{}} var a; proc f(){} cond c;", "proc main(){try{}when range{}when index{} try{}when range{}}",
@@ -111,7 +79,7 @@ final class FaultTest {
       "proc main(){out 1<=2;}", "proc main(){out(1);return(2);}", "proc main(){if(1){}while(0){}}", "proc main(){}#", "#\nproc main(){}#x\n",
       "proc\tmain\r\n(\n)\n{\n}\n", "proc main(){return 1;out 2;}",
     };
-    for (String t : fine) good(t);
+    for (String t : fine) Verdict.good(t);
   }
 
   private static void argumentsAndMain() {
@@ -120,16 +88,16 @@ final class FaultTest {
       "proc f(x){} proc main(){|f(f());}".replace("f());", "f(),1);"), "proc f(x){} proc main(){f(|f());}", "proc main(){f(1); |f();} proc f(x){}",
       "proc main(){|main(1);}", "proc f(x,y){} proc main(){out f(1,2)+|f(f(1,2));}",
     };
-    for (String t : texts) marked(3, t);
-    faulty("", 4, 0);
-    faulty("  ", 4, 2);
-    faulty("proc f(){}", 4, 10);
-    faulty("proc main(x){}", 4, 14);
-    faulty("var main;", 4, 9);
-    faulty("proc f(x){f();}", 3, 10);
-    faulty("proc f(x){f(); g();}", 2, 15);
-    faulty("proc f(x){f(); g()}", 1, 18);
-    faulty("var a[0];", 4, 9);
+    for (String t : texts) Verdict.marked(3, t);
+    Verdict.faulty("", 4, 0);
+    Verdict.faulty("  ", 4, 2);
+    Verdict.faulty("proc f(){}", 4, 10);
+    Verdict.faulty("proc main(x){}", 4, 14);
+    Verdict.faulty("var main;", 4, 9);
+    Verdict.faulty("proc f(x){f();}", 3, 10);
+    Verdict.faulty("proc f(x){f(); g();}", 2, 15);
+    Verdict.faulty("proc f(x){f(); g()}", 1, 18);
+    Verdict.faulty("var a[0];", 4, 9);
   }
 
   private static String procs(int n) {
@@ -156,53 +124,48 @@ final class FaultTest {
     return all.append("}").toString();
   }
 
-  private static void edge(String fits, String large) {
-    good(fits);
-    faulty(large, 5, large.length());
-  }
-
   private static void large() {
-    edge(procs(40), procs(41));
-    edge(list("cond ", "c", 25, ";proc main(){}"), list("cond ", "c", 26, ";proc main(){}"));
-    edge(vars(60), vars(61));
-    edge(list("proc main(){}proc f(", "a", 8, "){}"), list("proc main(){}proc f(", "a", 9, "){}"));
-    edge(locals(16), locals(17));
-    edge("var a[1];proc main(){}", "var a[0];proc main(){}");
-    edge("var a[500];proc main(){}", "var a[501];proc main(){}");
-    faulty("var a[32767];proc main(){}", 5, 26);
+    Verdict.edge(procs(40), procs(41));
+    Verdict.edge(list("cond ", "c", 25, ";proc main(){}"), list("cond ", "c", 26, ";proc main(){}"));
+    Verdict.edge(vars(60), vars(61));
+    Verdict.edge(list("proc main(){}proc f(", "a", 8, "){}"), list("proc main(){}proc f(", "a", 9, "){}"));
+    Verdict.edge(locals(16), locals(17));
+    Verdict.edge("var a[1];proc main(){}", "var a[0];proc main(){}");
+    Verdict.edge("var a[500];proc main(){}", "var a[501];proc main(){}");
+    Verdict.faulty("var a[32767];proc main(){}", 5, 26);
     int words = Kit.compiled("proc main(){}").count(3);
     // Eleven arrays of 500, and one that fills the rest to the word.
     StringBuilder text = new StringBuilder("proc main(){}");
     for (int i = 0; i < 11; i++) text.append("var a").append(i).append("[500];");
     int left = 500 - words;
-    edge(text + "var z[" + left + "];", text + "var z[" + (left + 1) + "];");
+    Verdict.edge(text + "var z[" + left + "];", text + "var z[" + (left + 1) + "];");
     // CODE alone.
     String out = "var v;proc main(){out v" + Kit.times("/v", 200) + ";}";
-    good(out);
+    Verdict.good(out);
     out = "var v;proc main(){out v" + Kit.times("/v", 1400) + ";}";
-    faulty(out, 5, out.length());
+    Verdict.faulty(out, 5, out.length());
     // Texts of 3000 bytes with as many parts as there may be.
     String many = "proc main(){" + Kit.times("f();", 744) + "}proc f(){}";
-    faulty(many, 5, 2999);
-    good("proc main(){" + Kit.times("f();", 500) + "}proc f(){}");
+    Verdict.faulty(many, 5, 2999);
+    Verdict.good("proc main(){" + Kit.times("f();", 500) + "}proc f(){}");
     many = "proc main(){" + Kit.times("try{}when range{}", 174) + "}";
-    good(many);
+    Verdict.good(many);
     many = "proc main(){" + Kit.times("if 1{}", 490) + "}";
-    good(many);
+    Verdict.good(many);
     many = Kit.times("proc a(){}", 300);
-    faulty(many, 2, 15);
+    Verdict.faulty(many, 2, 15);
     many = "cond " + Kit.times("a,", 1496) + "a;";
-    faulty(many, 2, 7);
+    Verdict.faulty(many, 2, 7);
     many = "proc f(" + Kit.times("a,", 1490) + "a){}";
-    faulty(many, 2, 9);
+    Verdict.faulty(many, 2, 9);
     many = "proc main() raises " + Kit.times("a,", 1488) + "a{}";
-    faulty(many, 2, 19);
+    Verdict.faulty(many, 2, 19);
     many = Kit.times("var a;", 500);
-    faulty(many, 2, 10);
-    faulty(Kit.times("(", 3000), 1, 0);
-    faulty("proc main(){out " + Kit.times("(", 2984), 1, 16 + 29);
-    faulty(Kit.times(" ", 3000), 4, 3000);
-    good("proc main(){out " + Kit.times("0", 2980) + "7;}");
+    Verdict.faulty(many, 2, 10);
+    Verdict.faulty(Kit.times("(", 3000), 1, 0);
+    Verdict.faulty("proc main(){out " + Kit.times("(", 2984), 1, 16 + 29);
+    Verdict.faulty(Kit.times(" ", 3000), 4, 3000);
+    Verdict.good("proc main(){out " + Kit.times("0", 2980) + "7;}");
   }
 
   private static void stays() {

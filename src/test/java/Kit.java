@@ -4,8 +4,14 @@ import java.nio.charset.StandardCharsets;
 final class Kit {
   private static int wrong = 0;
   private static int asked = 0;
+  private static String sentence = "";
 
   private Kit() {}
+
+  /** The document's sentence that the answers from here on are due by. */
+  static void sentence(String words) {
+    sentence = "[" + words + "] ";
+  }
 
   static void due(String what, long got, long want) {
     asked++;
@@ -13,7 +19,7 @@ final class Kit {
     wrong++;
     if (wrong > 40) return;
     String named = what.length() > 400 ? what.substring(0, 400) + ".." : what;
-    System.out.println(named + " answered " + got + ", due is " + want);
+    System.out.println(sentence + named + " answered " + got + ", due is " + want);
   }
 
   static void due(String what, boolean got, boolean want) {
