@@ -77,16 +77,20 @@ final class ClockEdgeTest {
 
   private static void places() {
     Kit.sentence("S 3: the word at MAR becomes MDR (at 65280: a number more of the OUTPUT; elsewhere beyond 8191 nothing)");
-    GatedPile x = Loader.run(set(1, 8191, Loader.near(Loader.STORE, 1, 1, 0), Loader.near(Loader.STORE, 1, 1, 1),
+    GatedPile x = Loader.run(set(1, 8191, Loader.nine(Loader.LI, 5, 77), Loader.near(Loader.STORE, 5, 0, 0),
+        Loader.near(Loader.STORE, 1, 1, 0), Loader.near(Loader.STORE, 1, 1, 1), Loader.near(Loader.STORE, 1, 1, 2),
         Loader.near(Loader.STORE, 1, 1, -1), Loader.near(Loader.LOAD, 2, 1, 0), Loader.near(Loader.LOAD, 3, 1, 1),
-        Loader.near(Loader.LOAD, 4, 1, -1)));
+        Loader.near(Loader.LOAD, 4, 1, -1), Loader.near(Loader.LOAD, 6, 1, 2)));
     Kit.due("memory(8190)", x.memory(8190), 8191);
     Kit.due("memory(8191)", x.memory(8191), 8191);
     Kit.due("memory(8192)", x.memory(8192), 0);
+    Kit.due("memory(0), which is not 8192", x.memory(0), 77);
+    Kit.due("memory(1), which is not 8193", x.memory(1), (short) Loader.nine(Loader.LI, 1, -256));
     Kit.sentence("DATA is the word of the memory (0 .. 8191) at MAR; .. else 0");
     Kit.due("LOAD from 8191", x.look(2), 8191);
     Kit.due("LOAD from 8192", x.look(3), 0);
     Kit.due("LOAD from 8190", x.look(4), 8191);
+    Kit.due("LOAD from 8193", x.look(6), 0);
     Kit.due("nothing was sent", x.count(9), 0);
     Kit.sentence("at 65280 the next number of the INPUT (0 without one), which is taken in a clock with S 2; at 65281 how many are left; else 0");
     x = Loader.at(set(1, 65280, Loader.near(Loader.LOAD, 2, 1, -1), Loader.near(Loader.LOAD, 3, 1, 1), Loader.near(Loader.LOAD, 4, 1, 2),

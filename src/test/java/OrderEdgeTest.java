@@ -232,8 +232,10 @@ final class OrderEdgeTest {
 
   private static void reachesBack() {
     Kit.sentence("GO L: JUMP L if that reaches: back");
-    // while 0: PUSH 3, UNLESS 5, the BLOCK, JUMP.
-    for (int words = 2036; words <= 2050; words++) {
+    // IN has 10 words, UNLESS 5, then the BLOCK and JUMP.
+    boolean last = false;
+    boolean first2049 = false;
+    for (int words = 2026; words <= 2050; words++) {
       GatedPile x = Kit.compiled("proc main(){while in{" + filler(words) + "}out 5;}");
       int first = x.order(1, 3);
       int unless = x.order(2, 3);
@@ -242,6 +244,8 @@ final class OrderEdgeTest {
       int at = x.order(back, 3);
       int size = x.order(back + 1, 3) - at;
       int step = first - at - 1;
+      last |= step == -2048;
+      first2049 |= step == -2049;
       Kit.due("words of JUMP with step " + step, size, step >= -2048 ? 1 : 3);
       if (size == 1) Kit.due("JUMP back by " + step, x.word(at), 14 << 12 | step & 4095);
       else Kit.due("longer one back by " + step, isLong(x, at, first), true);
@@ -253,6 +257,7 @@ final class OrderEdgeTest {
       Kit.due("the last number", x.output(x.count(9) - 1), 5);
       Kit.due("INPUT that is left", x.count(8), 0);
     }
+    Kit.due("the last step that reaches, and the first beyond, were seen", last && first2049, true);
   }
 
   private static void reachesAgain() {

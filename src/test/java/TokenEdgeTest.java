@@ -87,6 +87,50 @@ final class TokenEdgeTest {
     Verdict.marked(1, "var a; |. var ;");
   }
 
+  /** So many conditions are LARGE; a NAME that were taken for another would be a FAULT that comes ahead. */
+  private static void allDiffer(java.util.Set<String> names) {
+    java.util.List<String> left = new java.util.ArrayList<>(names);
+    java.util.Collections.shuffle(left, new java.util.Random(left.size()));
+    StringBuilder text = new StringBuilder("proc main(){}cond z");
+    for (String n : left) {
+      if (text.length() + n.length() + 2 > 3000) break;
+      if (!n.equals("z")) text.append(",").append(n);
+    }
+    Verdict.behind(5, text.append(";").toString());
+  }
+
+  private static void spellings() {
+    Kit.sentence("WORDS that differ in a byte, or in their length, are different NAMES");
+    java.util.Set<String> keys = new java.util.HashSet<>(java.util.Arrays.asList(KEYS));
+    java.util.Set<String> names = new java.util.TreeSet<>();
+    String first = "abcdefghijklmnopqrstuvwxyz";
+    String later = first + "0123456789";
+    for (char a : first.toCharArray()) {
+      names.add("" + a);
+      for (char b : later.toCharArray()) if (!keys.contains("" + a + b)) names.add("" + a + b);
+    }
+    allDiffer(names);
+    java.util.Random random = new java.util.Random(12);
+    for (int turn = 0; turn < 60; turn++) {
+      names.clear();
+      int longest = 3 + turn % 10;
+      // Many that are alike but for a byte or two.
+      StringBuilder one = new StringBuilder();
+      for (int i = 0; i < longest; i++) one.append((i == 0 ? first : later).charAt(random.nextInt(i == 0 ? 26 : 36)));
+      for (int i = 0; i < 1000; i++) {
+        StringBuilder n = new StringBuilder(one);
+        for (int j = 0; j < 2; j++) {
+          int at = random.nextInt(longest);
+          n.setCharAt(at, (at == 0 ? first : later).charAt(random.nextInt(at == 0 ? 26 : 36)));
+        }
+        n.setLength(longest - random.nextInt(3));
+        String name = n.toString();
+        if (!keys.contains(name) && !java.util.Set.of("main", "range", "index", "divide", "empty", "error").contains(name)) names.add(name);
+      }
+      allDiffer(names);
+    }
+  }
+
   private static void numbers() {
     Kit.sentence("a NUMBER: digits, as many as stand there, at most 32767");
     int[] fine = {0, 1, 9, 10, 255, 256, 9999, 32760, 32766, 32767};
@@ -236,6 +280,7 @@ final class TokenEdgeTest {
     firstByte();
     laterBytes();
     twelve();
+    spellings();
     numbers();
     signs();
     blanks();
